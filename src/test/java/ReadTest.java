@@ -1,0 +1,99 @@
+/** Promise 4: which shapes are read, what plan and points they have, and what becomes of tape and slot. */
+final class ReadTest {
+    public static void main(String[] args) {
+        readsEachKind();
+        readsEmptyShapes();
+        readsBlanksAndSmallLetters();
+        readsCollections();
+        emptiesTheTape();
+        leavesTheSlotWithNone();
+        leavesFaultWithoutSuchSlot();
+        Check.finish();
+    }
+
+    private static void readsEachKind() {
+        WordShapes x = new WordShapes(0, 100, 100);
+        Check.dueShape(x, "POINT(1 2)", "1 1", "1,2");
+        Check.dueShape(x, "LINESTRING(1 2)", "2 1", "1,2");
+        Check.dueShape(x, "LINESTRING(1 2,3 4,-5 -6)", "2 3", "1,2 3,4 -5,-6");
+        Check.dueShape(x, "POLYGON((1 2,3 4))", "3 1 2", "1,2 3,4");
+        Check.dueShape(x, "POLYGON((1 2,3 4),(5 6),(7 8,9 10,11 12))", "3 3 2 1 3", "1,2 3,4 5,6 7,8 9,10 11,12");
+        Check.dueShape(x, "MULTIPOINT(1 2)", "4 1 1 1", "1,2");
+        Check.dueShape(x, "MULTIPOINT((1 2),3 4,EMPTY,(5 6))", "4 4 1 1 1 1 1 0 1 1", "1,2 3,4 5,6");
+        Check.dueShape(x, "MULTILINESTRING((1 2,3 4),EMPTY,(5 6))", "5 3 2 2 2 0 2 1", "1,2 3,4 5,6");
+        Check.dueShape(x, "MULTIPOLYGON(((1 2,3 4),(5 6)),EMPTY,((7 8)))", "6 3 3 2 2 1 3 0 3 1 1", "1,2 3,4 5,6 7,8");
+        Check.dueShape(x, "GEOMETRYCOLLECTION(POINT(1 2),POLYGON EMPTY)", "7 2 1 1 3 0", "1,2");
+    }
+
+    private static void readsEmptyShapes() {
+        WordShapes x = new WordShapes(0, 100, 100);
+        String[] words = {"POINT", "LINESTRING", "POLYGON", "MULTIPOINT", "MULTILINESTRING", "MULTIPOLYGON",
+            "GEOMETRYCOLLECTION"};
+        for (int i = 0; i < words.length; i++) {
+            Check.dueShape(x, words[i] + " EMPTY", i + 1 + " 0", "");
+        }
+    }
+
+    private static void readsBlanksAndSmallLetters() {
+        WordShapes x = new WordShapes(0, 100, 100);
+        Check.dueShape(x, " \t\n\rpOiNt \t\n\r( \t\n\r1 \t\n\r2 \t\n\r) \t\n\r", "1 1", "1,2");
+        Check.dueShape(x, "MultiPolygon ( ( ( 1 2 , 3 4 ) , ( 5 6 ) ) , empty )", "6 2 3 2 2 1 3 0", "1,2 3,4 5,6");
+        Check.dueShape(x, "Point\nEmpty", "1 0", "");
+        Check.dueShape(x, "multipoint(1\t2,Empty,(3\r4))", "4 3 1 1 1 0 1 1", "1,2 3,4");
+    }
+
+    private static void readsCollections() {
+        WordShapes x = new WordShapes(0, 100, 200);
+        Check.dueShape(x,
+            "GEOMETRYCOLLECTION(GEOMETRYCOLLECTION(POINT(1 2),GEOMETRYCOLLECTION EMPTY),MULTIPOINT(3 4),LINESTRING(5 6,7 8))",
+            "7 3 7 2 1 1 7 0 4 1 1 1 2 2", "1,2 3,4 5,6 7,8");
+        String deepest = "GEOMETRYCOLLECTION(".repeat(50) + "MULTIPOLYGON(((1 2)))" + ")".repeat(50);
+        Check.dueShape(x, deepest, "7 1 ".repeat(50) + "6 1 3 1 1", "1,2");
+        String side = "GEOMETRYCOLLECTION(".repeat(49) + "GEOMETRYCOLLECTION EMPTY,GEOMETRYCOLLECTION(POINT EMPTY)"
+            + ")".repeat(49);
+        Check.dueShape(x, side, "7 1 ".repeat(48) + "7 2 7 0 7 1 1 0", "");
+    }
+
+    private static void emptiesTheTape() {
+        WordShapes x = new WordShapes(0, 10, 10);
+        Check.read(x, 0, "POINT (1 2)");
+        Check.due("tape behind a shape", x.count(0, 2), 0);
+        Check.dueThrows("read of nothing", IllegalArgumentException.class, () -> x.read(1));
+        Check.feed(x, "POINT (1 2");
+        Check.dueThrows("read of what is wrong", IllegalArgumentException.class, () -> x.read(1));
+        Check.due("tape behind what is wrong", x.count(0, 2), 0);
+        for (int slot : new int[] {-1, 4, Integer.MIN_VALUE, Integer.MAX_VALUE}) {
+            Check.feed(x, "POINT (1 2)");
+            Check.dueThrows("read(" + slot + ")", IndexOutOfBoundsException.class, () -> x.read(slot));
+            Check.due("tape without such slot", x.count(0, 2), 0);
+        }
+    }
+
+    private static void leavesTheSlotWithNone() {
+        WordShapes x = new WordShapes(0, 10, 10);
+        for (int slot = 0; slot < 4; slot++) {
+            Check.due("kind", Check.read(x, slot, "LINESTRING (1 2," + slot + " 4)"), 2);
+        }
+        Check.feed(x, "LINESTRING (1 2,3 4) x");
+        Check.dueThrows("read", IllegalArgumentException.class, () -> x.read(2));
+        Check.due("numbers", x.count(2, 0), 0);
+        Check.due("points", x.count(2, 1), 0);
+        for (int slot = 0; slot < 4; slot++) {
+            Check.due("points of slot " + slot, Check.pointsOf(x, slot), slot == 2 ? "" : "1,2 " + slot + ",4");
+        }
+    }
+
+    private static void leavesFaultWithoutSuchSlot() {
+        WordShapes x = new WordShapes(0, 10, 10);
+        Check.dueFault(x, 3, "POINT (1 !");
+        Check.feed(x, "POINT (1 2)");
+        Check.dueThrows("read(4)", IndexOutOfBoundsException.class, () -> x.read(4));
+        Check.due("fault(0)", x.fault(0), 3);
+        Check.due("fault(1)", x.fault(1), 9);
+        Check.read(x, 0, "POINT (1 2)");
+        Check.feed(x, "#");
+        Check.dueThrows("read(-1)", IndexOutOfBoundsException.class, () -> x.read(-1));
+        Check.due("fault(0)", x.fault(0), 0);
+        Check.due("count", x.count(0, 1), 1);
+    }
+}
