@@ -17,6 +17,7 @@ final class EndTest {
         Check.due("count", x.count(0, 2), 210);
         endsTwice();
         keepsWhatCounts();
+        leavesOutWhatIsGone();
         Check.finish();
     }
 
@@ -35,5 +36,28 @@ final class EndTest {
         Check.feed(x, "POINT (1 2)xxxxxxxxx");
         x.end(11);
         Check.due("kind", x.read(3), 1);
+    }
+
+    private static void leavesOutWhatIsGone() {
+        dueCut("POINT EMPTY         ", 10, 2, 6);
+        dueCut("POINT EMPTY         ", 4, 2, 0);
+        dueCut("POINT (1 25)        ", 10, 3, 10);
+        dueCut("POINT (1 2e5)       ", 11, 4, 9);
+        dueCut("POINT (1 2e+5)      ", 12, 4, 9);
+        dueCut("POINT (1 2e+5)      ", 11, 4, 9);
+        dueCut("POINT (1 -5)        ", 10, 4, 9);
+        dueCut("POINT (1 2.5)       ", 11, 3, 11);
+        dueCut("POINT               ", 5, 3, 5);
+        dueCut("       POINT EMPTY  ", 7, 3, 7);
+        dueCut("POINT (1 2)         ", 10, 3, 10);
+    }
+
+    private static void dueCut(String twenty, int n, int fault, int place) {
+        WordShapes x = new WordShapes(0, 10, 10);
+        Check.feed(x, twenty);
+        x.end(n);
+        Check.dueThrows("read of the cut " + twenty, IllegalArgumentException.class, () -> x.read(0));
+        Check.due("fault(0) of the cut " + twenty, x.fault(0), fault);
+        Check.due("fault(1) of the cut " + twenty, x.fault(1), place);
     }
 }

@@ -40,6 +40,12 @@ final class FaultTest {
     }
 
     private static void word(WordShapes x) {
+        for (char c = 'A'; c <= 'Z'; c++) {
+            Check.dueFault(x, 2, "!" + c);
+            Check.dueFault(x, 2, "!" + (char) (c + 32));
+            Check.dueFault(x, 2, "POINT !" + c);
+            Check.dueFault(x, 2, "POINT !" + (char) (c + 32));
+        }
         Check.dueFault(x, 2, "!POIN (1 2)");
         Check.dueFault(x, 2, "  !POINTS (1 2)");
         Check.dueFault(x, 2, "!POINTEMPTY");
@@ -61,7 +67,10 @@ final class FaultTest {
     private static void expected(WordShapes x) {
         Check.dueFault(x, 3, "!");
         Check.dueFault(x, 3, " \t!");
-        Check.dueFault(x, 3, "!1");
+        for (char c : "0123456789+-.(),".toCharArray()) {
+            Check.dueFault(x, 3, "!" + c);
+            Check.dueFault(x, 3, GC + " ( !" + c);
+        }
         Check.dueFault(x, 3, " !(1 2)");
         Check.dueFault(x, 3, "!+");
         Check.dueFault(x, 3, "!,");

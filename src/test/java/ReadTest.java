@@ -8,6 +8,7 @@ final class ReadTest {
         emptiesTheTape();
         leavesTheSlotWithNone();
         leavesFaultWithoutSuchSlot();
+        readsAFullTape();
         Check.finish();
     }
 
@@ -95,5 +96,32 @@ final class ReadTest {
         Check.dueThrows("read(-1)", IndexOutOfBoundsException.class, () -> x.read(-1));
         Check.due("fault(0)", x.fault(0), 0);
         Check.due("count", x.count(0, 1), 1);
+    }
+
+    /** More calls than the document speaks of, since no fewer fill the tape. */
+    private static void readsAFullTape() {
+        dueFull("", " ", 3, 65536);
+        dueFull("", "P", 2, 0);
+        dueFull("POINT ", "E", 2, 6);
+        dueFull("POINT (1 2", " ", 3, 65536);
+        dueFull("POINT (1 ", "0", 3, 65536);
+        dueFull("POINT (1 ", "9", 5, 9);
+        dueFull("POINT (1 0.", "9", 3, 65536);
+        dueFull("POINT (1 2e", "0", 3, 65536);
+        dueFull("POINT (1 2e-", "9", 3, 65536);
+        dueFull("POINT (1 2e", "9", 5, 9);
+        dueFull("MULTIPOINT (1 2,", "(", 3, 17);
+        dueFull("POINT (1 2)", ")", 8, 11);
+    }
+
+    private static void dueFull(String start, String filler, int fault, int place) {
+        WordShapes x = new WordShapes(0, 10, 10);
+        String text = start + filler.repeat(65536 - start.length());
+        Check.feed(x, text.substring(0, 65516));
+        Check.feed(x, text.substring(65516));
+        Check.due("a full tape", x.count(0, 2), 65536);
+        Check.dueThrows("read of " + start, IllegalArgumentException.class, () -> x.read(0));
+        Check.due("fault(0) of " + start, x.fault(0), fault);
+        Check.due("fault(1) of " + start, x.fault(1), place);
     }
 }

@@ -1,7 +1,7 @@
 /** Promise 8: whether two slots have the same shape. */
 final class SameTest {
     public static void main(String[] args) {
-        String[] shapes = {"POINT (1 2)", "POINT (2 1)", "POINT (1 3)", "POINT EMPTY", "LINESTRING EMPTY", "LINESTRING (1 2)",
+        String[] shapes = {"POINT (1 2)", "POINT (3 2)", "POINT (1 3)", "POINT EMPTY", "LINESTRING EMPTY", "LINESTRING (1 2)",
             "LINESTRING (1 2, 3 4)", "LINESTRING (3 4, 1 2)", "POLYGON ((1 2, 3 4))", "POLYGON ((1 2), (3 4))",
             "MULTIPOINT (1 2, 3 4)", "MULTIPOINT (1 2, EMPTY, 3 4)", "MULTIPOINT (EMPTY, 1 2, 3 4)",
             "GEOMETRYCOLLECTION (POINT (1 2))", "GEOMETRYCOLLECTION (POINT (1 2), POINT EMPTY)", "POINT (1 2"};
