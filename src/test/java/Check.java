@@ -87,7 +87,8 @@ final class Check {
 
     static String planOf(WordShapes x, int slot) {
         StringBuilder plan = new StringBuilder();
-        for (int i = 0; i < x.count(slot, 0); i++) {
+        int numbers = x.count(slot, 0);
+        for (int i = 0; i < numbers; i++) {
             plan.append(i == 0 ? "" : " ").append(x.plan(slot, i));
         }
         return plan.toString();
@@ -95,7 +96,8 @@ final class Check {
 
     static String pointsOf(WordShapes x, int slot) {
         StringBuilder points = new StringBuilder();
-        for (int i = 0; i < x.count(slot, 1); i++) {
+        int many = x.count(slot, 1);
+        for (int i = 0; i < many; i++) {
             points.append(i == 0 ? "" : " ").append(x.ordinate(slot, i, 0)).append(",").append(x.ordinate(slot, i, 1));
         }
         return points.toString();

@@ -16,6 +16,9 @@ final class EndTest {
         Check.dueThrows("end(21)", IllegalArgumentException.class, () -> x.end(21));
         Check.due("count", x.count(0, 2), 210);
         endsTwice();
+        needsTwentyBytes();
+        refusesOtherNumbersFirst();
+        endsATapeFromAgain();
         keepsWhatCounts();
         leavesOutWhatIsGone();
         Check.finish();
@@ -59,5 +62,52 @@ final class EndTest {
         Check.dueThrows("read of the cut " + twenty, IllegalArgumentException.class, () -> x.read(0));
         Check.due("fault(0) of the cut " + twenty, x.fault(0), fault);
         Check.due("fault(1) of the cut " + twenty, x.fault(1), place);
+    }
+
+    /** "IllegalStateException, when it has less than twenty", with every length up to that. */
+    private static void needsTwentyBytes() {
+        for (int length = 0; length <= 20; length++) {
+            for (int n : new int[] {0, 1, 19, 20}) {
+                WordShapes x = new WordShapes(0, 10, 10);
+                x.feed(0, 0, 0, 0, 0);
+                Check.due("end(" + length + ")", x.end(length), length);
+                if (length < 20) {
+                    Check.dueThrows("end of " + length, IllegalStateException.class, () -> x.end(n));
+                    Check.due("tape", x.count(0, 2), length);
+                } else {
+                    Check.due("end of " + length, x.end(n), n);
+                }
+            }
+        }
+    }
+
+    /** "Of several exceptions the first one told is thrown." */
+    private static void refusesOtherNumbersFirst() {
+        for (int n : new int[] {-1, -20, 21, 40, 256, Integer.MIN_VALUE, Integer.MAX_VALUE}) {
+            WordShapes x = new WordShapes(0, 10, 10);
+            Check.dueThrows("end(" + n + ") of none", IllegalArgumentException.class, () -> x.end(n));
+            Check.feed(x, "POINT EMPTY");
+            Check.dueThrows("end(" + n + ") of few", IllegalArgumentException.class, () -> x.end(n));
+            Check.feed(x, " ".repeat(20));
+            Check.dueThrows("end(" + n + ") of enough", IllegalArgumentException.class, () -> x.end(n));
+            Check.due("tape", x.count(0, 2), 31);
+            Check.due("what is there stays", x.read(0), 1);
+        }
+    }
+
+    private static void endsATapeFromAgain() {
+        WordShapes x = new WordShapes(0, 10, 10);
+        Check.read(x, 0, "LINESTRING(1 2,3 4,5 6)");
+        Check.due("write", x.write(0), 26);
+        x.again();
+        Check.due("end", x.end(19), 25);
+        Check.feed(x, ",7 8)");
+        Check.due("read", x.read(1), 2);
+        Check.due("points", Check.pointsOf(x, 1), "1,2 3,4 5,6 7,8");
+        Check.due("the result stays", x.count(0, 3), 26);
+        Check.read(x, 2, "POINT(1 2)");
+        x.write(2);
+        x.again();
+        Check.dueThrows("end of eleven", IllegalStateException.class, () -> x.end(11));
     }
 }

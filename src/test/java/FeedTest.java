@@ -2,8 +2,10 @@
 final class FeedTest {
     public static void main(String[] args) {
         keepsTheOrderOfBytes();
+        hasAPlaceForEachByte();
         countsBytes();
         refusesMoreThanTheTapeHolds();
+        fillsTheTapeFromEachLength();
         Check.finish();
     }
 
@@ -17,6 +19,22 @@ final class FeedTest {
         x.feed(0xFF202020, 0, 0, 0, 0);
         Check.dueThrows("a byte above 127", IllegalArgumentException.class, () -> x.read(0));
         Check.due("its fault", x.fault(0), 1);
+    }
+
+    /** "the highest of a first": among blanks each byte's fault tells its place, whatever its highest bit. */
+    private static void hasAPlaceForEachByte() {
+        for (int b : new int[] {0, 1, '#', 127, 128, 160, 255}) {
+            for (int i = 0; i < 20; i++) {
+                int[] fed = {0x20202020, 0x20202020, 0x20202020, 0x20202020, 0x20202020};
+                int shift = 24 - 8 * (i % 4);
+                fed[i / 4] = fed[i / 4] & ~(255 << shift) | b << shift;
+                WordShapes x = new WordShapes(0, 10, 10);
+                x.feed(fed[0], fed[1], fed[2], fed[3], fed[4]);
+                Check.dueThrows("read", IllegalArgumentException.class, () -> x.read(0));
+                Check.due("fault of byte " + b, x.fault(0), 1);
+                Check.due("place of byte " + b, x.fault(1), i);
+            }
+        }
     }
 
     private static void countsBytes() {
@@ -40,5 +58,29 @@ final class FeedTest {
         Check.due("feed up to the limit", x.feed(0, 0, 0, 0, 0), 65536);
         Check.dueThrows("feed beyond", IllegalStateException.class, () -> x.feed(0, 0, 0, 0, 0));
         Check.due("count", x.count(0, 2), 65536);
+    }
+
+    /** "IllegalStateException, when there would be more than 65536", and what is there stays. */
+    private static void fillsTheTapeFromEachLength() {
+        for (int length = 65510; length <= 65536; length++) {
+            WordShapes x = new WordShapes(0, 10, 10);
+            Check.feed(x, "POINT EMPTY" + " ".repeat(65500 - 11));
+            fillUpTo(x, length);
+            if (length + 20 <= 65536) {
+                Check.due("feed behind " + length, x.feed(0x20202020, 0x20202020, 0x20202020, 0x20202020, 0x20202020), length + 20);
+            } else {
+                Check.dueThrows("feed behind " + length, IllegalStateException.class, () -> x.feed(-1, -1, -1, -1, -1));
+                Check.due("tape", x.count(0, 2), length);
+            }
+            Check.due("what is there stays", x.read(0), 1);
+            Check.due("feed of an empty tape", x.feed(0, 0, 0, 0, 0), 20);
+        }
+    }
+
+    private static void fillUpTo(WordShapes x, int length) {
+        int missing = length - x.count(0, 2);
+        Check.feed(x, " ".repeat(Math.min(missing, 16)));
+        Check.feed(x, " ".repeat(Math.max(missing - 16, 0)));
+        Check.due("tape", x.count(0, 2), length);
     }
 }

@@ -9,6 +9,9 @@ final class LookTest {
         looksAtOrdinates(x);
         looksAtBytes(x);
         counts(x);
+        showsNothingOfWhatWasBefore();
+        showsNoPointOfEmptyShapes();
+        showsTheLastOfTheLargest();
         Check.finish();
     }
 
@@ -77,5 +80,53 @@ final class LookTest {
                 dueNone("count of slot " + slot, () -> x.count(slot, one));
             }
         }
+    }
+
+    /** "when there is no such [..] number", point or byte: what a larger shape or result left behind is none. */
+    private static void showsNothingOfWhatWasBefore() {
+        WordShapes x = new WordShapes(0, 10, 10);
+        Check.read(x, 1, "POLYGON ((1 2, 3 4), (5 6))");
+        x.write(1);
+        Check.read(x, 1, "POINT (7 8)");
+        Check.due("last number", x.plan(1, 1), 1);
+        dueNone("number behind", () -> x.plan(1, 2));
+        Check.due("last y", x.ordinate(1, 0, 1), 8);
+        dueNone("point behind", () -> x.ordinate(1, 1, 0));
+        Check.due("last byte before", x.byteAt(26), ')');
+        x.write(1);
+        Check.due("last byte", x.byteAt(10), ')');
+        dueNone("byte behind", () -> x.byteAt(11));
+        dueNone("byte of the one before", () -> x.byteAt(26));
+        Check.dueFault(x, 3, "POINT (1 2!");
+        Check.dueThrows("read", IllegalArgumentException.class, () -> Check.read(x, 1, "POINT (1 2"));
+        dueNone("number of none", () -> x.plan(1, 0));
+        dueNone("point of none", () -> x.ordinate(1, 0, 0));
+        Check.due("a byte of the result stays", x.byteAt(10), ')');
+    }
+
+    private static void showsNoPointOfEmptyShapes() {
+        WordShapes x = new WordShapes(0, 10, 10);
+        for (String text : new String[] {"POINT EMPTY", "POLYGON EMPTY", "MULTIPOINT (EMPTY, EMPTY)", "GEOMETRYCOLLECTION EMPTY"}) {
+            Check.read(x, 3, text);
+            dueNone("point of " + text, () -> x.ordinate(3, 0, 0));
+            Check.due("points of " + text, x.count(3, 1), 0);
+            dueNone("number behind " + text, () -> x.plan(3, x.count(3, 0)));
+        }
+    }
+
+    /** The last number, point and byte of a shape that fills its object. */
+    private static void showsTheLastOfTheLargest() {
+        WordShapes x = new WordShapes(0, 4, 10);
+        Check.read(x, 0, "MULTIPOINT (1 2, 3 4, 5 6, 7 8)");
+        Check.due("numbers", x.count(0, 0), 10);
+        Check.due("points", x.count(0, 1), 4);
+        Check.due("last number", x.plan(0, 9), 1);
+        dueNone("number 10", () -> x.plan(0, 10));
+        Check.due("last x", x.ordinate(0, 3, 0), 7);
+        Check.due("last y", x.ordinate(0, 3, 1), 8);
+        dueNone("point 4", () -> x.ordinate(0, 4, 0));
+        dueNone("what 2 of the last", () -> x.ordinate(0, 3, 2));
+        dueNone("what -1 of the last", () -> x.ordinate(0, 3, -1));
+        dueNone("what 3 of the first", () -> x.ordinate(0, 0, 3));
     }
 }

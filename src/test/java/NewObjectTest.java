@@ -5,6 +5,8 @@ final class NewObjectTest {
         keepsTheLowestTwoBitsOfDigits();
         keepsPointsWithinLimits();
         keepsPlanWithinLimits();
+        keepsPlanWithinLimitsInFewCalls();
+        keepsTheLeastOfBoth();
         Check.due("NONE", WordShapes.NONE, -1);
         Check.finish();
     }
@@ -32,6 +34,7 @@ final class NewObjectTest {
         }
     }
 
+    /** "at least 1 [..], at most 4096": more calls than the document speaks of, since no fewer bring 4096 points. */
     private static void keepsPointsWithinLimits() {
         int[] given = {Integer.MIN_VALUE, -1, 0, 1, 2, 4095, 4096, 4097, Integer.MAX_VALUE};
         int[] kept = {1, 1, 1, 1, 2, 4095, 4096, 4096, 4096};
@@ -44,9 +47,10 @@ final class NewObjectTest {
         }
     }
 
+    /** "at least [..] 2, at most 4096": rings take one number each, so odd limits are told from even ones. */
     private static void keepsPlanWithinLimits() {
-        int[] given = {Integer.MIN_VALUE, 0, 2, 3, 4, 4095, 4096, 4097, Integer.MAX_VALUE};
-        int[] kept = {2, 2, 2, 3, 4, 4095, 4096, 4096, 4096};
+        int[] given = {Integer.MIN_VALUE, -1, 0, 1, 2, 3, 4, 4095, 4096, 4097, Integer.MAX_VALUE};
+        int[] kept = {2, 2, 2, 2, 2, 3, 4, 4095, 4096, 4096, 4096};
         for (int i = 0; i < given.length; i++) {
             WordShapes x = new WordShapes(0, 4096, given[i]);
             String rings = kept[i] == 2 ? "POLYGON (" : "POLYGON ((1 1)" + ",(1 1)".repeat(kept[i] - 3);
@@ -55,6 +59,33 @@ final class NewObjectTest {
                 Check.due("numbers with plan " + given[i], x.count(0, 0), kept[i]);
             }
             Check.dueFault(x, 7, rings + (kept[i] == 2 ? "" : ",") + "!(1 1))");
+        }
+    }
+
+    /** The same within the 512 calls that the document speaks of: a point of MULTIPOINT takes two numbers. */
+    private static void keepsPlanWithinLimitsInFewCalls() {
+        int[] given = {4094, 4095, 4096, 4097, Integer.MAX_VALUE};
+        int[] parts = {2046, 2046, 2047, 2047, 2047};
+        for (int i = 0; i < given.length; i++) {
+            String most = "MULTIPOINT(1 1" + ",1 1".repeat(parts[i] - 1);
+            WordShapes x = new WordShapes(0, 4096, given[i]);
+            Check.due("kind with plan " + given[i], Check.read(x, 3, most + ")"), 4);
+            Check.due("numbers with plan " + given[i], x.count(3, 0), 2 + 2 * parts[i]);
+            Check.due("last number with plan " + given[i], x.plan(3, 1 + 2 * parts[i]), 1);
+            Check.dueFault(new WordShapes(0, 4096, given[i]), 7, most + ",!1 1)");
+            Check.dueFault(new WordShapes(0, 4096, given[i]), 7, most + ",!EMPTY)");
+        }
+    }
+
+    /** The smallest object still reads a point and a line of one. */
+    private static void keepsTheLeastOfBoth() {
+        for (int least : new int[] {Integer.MIN_VALUE, -4096, -1, 0, 1}) {
+            WordShapes x = new WordShapes(0, least, least);
+            Check.dueShape(x, "POINT(1 2)", "1 1", "1,2");
+            Check.dueShape(x, "LINESTRING(3 4)", "2 1", "3,4");
+            Check.dueShape(x, "GEOMETRYCOLLECTION EMPTY", "7 0", "");
+            Check.dueFault(x, 7, "LINESTRING(3 4,!5 6)");
+            Check.dueFault(x, 7, "POLYGON(!(3 4))");
         }
     }
 }

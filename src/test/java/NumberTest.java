@@ -6,6 +6,9 @@ import java.util.Random;
 final class NumberTest {
     public static void main(String[] args) {
         roundsToTheEvenOne();
+        roundsTiesOfEachUnit();
+        needsOneDigitInAll();
+        endsBeforeWhatDoesNotGoOn();
         readsAllForms();
         readsLongNumbers();
         agreesWithBigDecimal();
@@ -41,6 +44,60 @@ final class NumberTest {
         due(3, "-2.0005", -2000);
         due(3, "-2.0015", -2002);
         due(3, "0.0004999", 0);
+    }
+
+    /** "exactly, of two as near to the even one", in units of each size and with signs. */
+    private static void roundsTiesOfEachUnit() {
+        for (int digits = 0; digits < 4; digits++) {
+            for (int units = 0; units < 12; units++) {
+                String number = BigDecimal.valueOf(units, digits).toPlainString() + (digits == 0 ? "." : "");
+                int even = units + units % 2;
+                String[] behind = {"", "0", "4", "49", "4" + "9".repeat(40), "5", "500", "5" + "0".repeat(40), "5" + "0".repeat(40) + "1",
+                    "51", "6", "9", "9".repeat(40)};
+                int[] rounded = {units, units, units, units, units, even, even, even, units + 1, units + 1, units + 1, units + 1,
+                    units + 1};
+                for (int i = 0; i < behind.length; i++) {
+                    due(digits, number + behind[i], rounded[i]);
+                    due(digits, "-" + number + behind[i], -rounded[i]);
+                }
+            }
+        }
+    }
+
+    /** "(at least one digit in all)", and digits behind e. */
+    private static void needsOneDigitInAll() {
+        for (String sign : new String[] {"", "+", "-"}) {
+            int one = sign.equals("-") ? -1 : 1;
+            due(0, sign + "4", 4 * one);
+            due(0, sign + "4.", 4 * one);
+            due(0, sign + ".4e1", 4 * one);
+            due(0, sign + "4e0", 4 * one);
+            due(0, sign + "4.e0", 4 * one);
+            due(0, sign + "4.e-0", 4 * one);
+            due(0, sign + "4.0E+00", 4 * one);
+            for (String none : new String[] {".", "e1", ".e1", "4e", "4.e", ".4e", "4e+", "4E-"}) {
+                int fault = (sign + none).equals("e1") ? 3 : 4;
+                Check.dueFault(new WordShapes(0, 1, 2), fault, "POINT (!" + sign + none + " 2)");
+                Check.dueFault(new WordShapes(0, 1, 2), fault, "POINT (1 !" + sign + none + ")");
+                Check.dueFault(new WordShapes(0, 1, 2), fault, "POINT (1 !" + sign + none);
+            }
+        }
+    }
+
+    /** "a number ends before the first character that does not go on with it" */
+    private static void endsBeforeWhatDoesNotGoOn() {
+        for (String number : new String[] {"1", "-1", "1.", ".1", "1.5", "1e0", "1e-1", "1.5E+1"}) {
+            for (String other : new String[] {"x", "e5.", "+", "-", "..", "E", "z1"}) {
+                Check.dueFault(new WordShapes(0, 1, 2), 4, "POINT (!" + number + other + " 2)");
+                Check.dueFault(new WordShapes(0, 1, 2), 4, "POINT (2 !" + number + other + ")");
+            }
+            for (String mark : new String[] {"(", ")", ","}) {
+                Check.dueFault(new WordShapes(0, 1, 2), 3, "POINT (" + number + "!" + mark + "2)");
+            }
+            Check.dueFault(new WordShapes(0, 1, 2), 3, "POINT (2 " + number + "!(");
+            Check.dueFault(new WordShapes(0, 1, 2), 1, "POINT (" + number + "!\u00ff 2)");
+            Check.dueFault(new WordShapes(0, 1, 2), 1, "POINT (2 " + number + "!_)");
+        }
     }
 
     private static void readsAllForms() {
@@ -86,8 +143,8 @@ final class NumberTest {
     private static void agreesWithBigDecimal() {
         Random random = new Random(7);
         for (int digits = 0; digits < 4; digits++) {
-            WordShapes x = new WordShapes(digits, 1, 2);
             for (int i = 0; i < 4000; i++) {
+                WordShapes x = new WordShapes(digits, 1, 2);
                 String number = number(random);
                 BigDecimal units = new BigDecimal(number).scaleByPowerOfTen(digits).setScale(0, RoundingMode.HALF_EVEN);
                 boolean fits = units.abs().compareTo(BigDecimal.valueOf(1000000000)) <= 0;

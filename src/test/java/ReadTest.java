@@ -6,7 +6,10 @@ final class ReadTest {
         readsBlanksAndSmallLetters();
         readsCollections();
         emptiesTheTape();
+        readsNothing();
         leavesTheSlotWithNone();
+        leavesNothingOfATextThatIsWrong();
+        changesNothingWithoutSuchSlot();
         leavesFaultWithoutSuchSlot();
         readsAFullTape();
         Check.finish();
@@ -44,15 +47,14 @@ final class ReadTest {
     }
 
     private static void readsCollections() {
-        WordShapes x = new WordShapes(0, 100, 200);
-        Check.dueShape(x,
+        Check.dueShape(new WordShapes(0, 100, 200),
             "GEOMETRYCOLLECTION(GEOMETRYCOLLECTION(POINT(1 2),GEOMETRYCOLLECTION EMPTY),MULTIPOINT(3 4),LINESTRING(5 6,7 8))",
             "7 3 7 2 1 1 7 0 4 1 1 1 2 2", "1,2 3,4 5,6 7,8");
         String deepest = "GEOMETRYCOLLECTION(".repeat(50) + "MULTIPOLYGON(((1 2)))" + ")".repeat(50);
-        Check.dueShape(x, deepest, "7 1 ".repeat(50) + "6 1 3 1 1", "1,2");
+        Check.dueShape(new WordShapes(0, 100, 200), deepest, "7 1 ".repeat(50) + "6 1 3 1 1", "1,2");
         String side = "GEOMETRYCOLLECTION(".repeat(49) + "GEOMETRYCOLLECTION EMPTY,GEOMETRYCOLLECTION(POINT EMPTY)"
             + ")".repeat(49);
-        Check.dueShape(x, side, "7 1 ".repeat(48) + "7 2 7 0 7 1 1 0", "");
+        Check.dueShape(new WordShapes(0, 100, 200), side, "7 1 ".repeat(48) + "7 2 7 0 7 1 1 0", "");
     }
 
     private static void emptiesTheTape() {
@@ -96,6 +98,56 @@ final class ReadTest {
         Check.dueThrows("read(-1)", IndexOutOfBoundsException.class, () -> x.read(-1));
         Check.due("fault(0)", x.fault(0), 0);
         Check.due("count", x.count(0, 1), 1);
+    }
+
+    /** The empty text is wrong at its end, and is the text that was read. */
+    private static void readsNothing() {
+        WordShapes x = new WordShapes(0, 10, 10);
+        Check.read(x, 2, "POINT (1 2)");
+        Check.dueThrows("read of nothing", IllegalArgumentException.class, () -> x.read(2));
+        Check.due("fault(0)", x.fault(0), 3);
+        Check.due("fault(1)", x.fault(1), 0);
+        Check.due("numbers", x.count(2, 0), 0);
+        Check.dueThrows("write", IllegalStateException.class, () -> x.write(2));
+        x.feed(0, 0, 0, 0, 0);
+        x.end(0);
+        Check.dueThrows("read of what is gone", IllegalArgumentException.class, () -> x.read(2));
+        Check.due("fault(0)", x.fault(0), 3);
+        Check.due("fault(1)", x.fault(1), 0);
+    }
+
+    private static void leavesNothingOfATextThatIsWrong() {
+        WordShapes x = new WordShapes(0, 5, 12);
+        for (String wrong : new String[] {"GEOMETRYCOLLECTION(GEOMETRYCOLLECTION(POLYGON((1 2,3 4),(5 6", "MULTIPOINT(1 2,3 4,5 6,7 8,9 9,",
+            "LINESTRING(1 2,3 4,5 6,7 8,9 9,1 1", "POINT(1 1e10", "POINT(1 2) POINT"}) {
+            Check.feed(x, wrong);
+            Check.dueThrows("read of " + wrong, IllegalArgumentException.class, () -> x.read(0));
+            Check.due("numbers", x.count(0, 0), 0);
+            Check.due("points", x.count(0, 1), 0);
+            Check.dueShape(x, "LINESTRING(1 2,3 4,5 6,7 8,9 9)", "2 5", "1,2 3,4 5,6 7,8 9,9");
+            Check.dueShape(x, "POINT EMPTY", "1 0", "");
+        }
+    }
+
+    /** "The tape [..] is empty then, in any case, also when there is no such slot; then fault() is as it was". */
+    private static void changesNothingWithoutSuchSlot() {
+        for (int slot : new int[] {-1, 4, Integer.MIN_VALUE, Integer.MAX_VALUE}) {
+            WordShapes x = new WordShapes(0, 10, 10);
+            Check.read(x, 0, "LINESTRING (1 2, 3 4)");
+            x.write(0);
+            for (String text : new String[] {"POINT (5 6)", "POINT (", ""}) {
+                Check.feed(x, text);
+                Check.dueThrows("read(" + slot + ")", IndexOutOfBoundsException.class, () -> x.read(slot));
+                Check.due("tape", x.count(0, 2), 0);
+                Check.due("fault(0)", x.fault(0), 0);
+                Check.due("fault(1)", x.fault(1), 0);
+                Check.due("result", x.count(0, 3), 21);
+                Check.due("points", Check.pointsOf(x, 0), "1,2 3,4");
+                for (int other = 1; other < 4; other++) {
+                    Check.due("numbers", x.count(other, 0), 0);
+                }
+            }
+        }
     }
 
     /** More calls than the document speaks of, since no fewer fill the tape. */
