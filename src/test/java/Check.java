@@ -53,14 +53,21 @@ final class Check {
         return text.getBytes(StandardCharsets.ISO_8859_1);
     }
 
+    /** The odd bytes first, so that what does not go beyond the tape's limit can always be fed. */
     static void feed(WordShapes x, String text) {
         byte[] bytes = bytes(text);
-        for (int i = 0; i < bytes.length; i += 20) {
-            x.feed(four(bytes, i), four(bytes, i + 4), four(bytes, i + 8), four(bytes, i + 12), four(bytes, i + 16));
+        int odd = bytes.length % 20;
+        if (odd != 0) {
+            feedTwenty(x, bytes, 0);
+            x.end(odd);
         }
-        if (bytes.length % 20 != 0) {
-            x.end(bytes.length % 20);
+        for (int i = odd; i < bytes.length; i += 20) {
+            feedTwenty(x, bytes, i);
         }
+    }
+
+    private static void feedTwenty(WordShapes x, byte[] bytes, int i) {
+        x.feed(four(bytes, i), four(bytes, i + 4), four(bytes, i + 8), four(bytes, i + 12), four(bytes, i + 16));
     }
 
     private static int four(byte[] bytes, int from) {

@@ -64,8 +64,8 @@ final class FeedTest {
     private static void fillsTheTapeFromEachLength() {
         for (int length = 65510; length <= 65536; length++) {
             WordShapes x = new WordShapes(0, 10, 10);
-            Check.feed(x, "POINT EMPTY" + " ".repeat(65500 - 11));
-            fillUpTo(x, length);
+            Check.feed(x, "POINT EMPTY" + " ".repeat(length - 11));
+            Check.due("tape", x.count(0, 2), length);
             if (length + 20 <= 65536) {
                 Check.due("feed behind " + length, x.feed(0x20202020, 0x20202020, 0x20202020, 0x20202020, 0x20202020), length + 20);
             } else {
@@ -75,12 +75,5 @@ final class FeedTest {
             Check.due("what is there stays", x.read(0), 1);
             Check.due("feed of an empty tape", x.feed(0, 0, 0, 0, 0), 20);
         }
-    }
-
-    private static void fillUpTo(WordShapes x, int length) {
-        int missing = length - x.count(0, 2);
-        Check.feed(x, " ".repeat(Math.min(missing, 16)));
-        Check.feed(x, " ".repeat(Math.max(missing - 16, 0)));
-        Check.due("tape", x.count(0, 2), length);
     }
 }

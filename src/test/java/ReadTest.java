@@ -164,16 +164,37 @@ final class ReadTest {
         dueFull("POINT (1 2e", "9", 5, 9);
         dueFull("MULTIPOINT (1 2,", "(", 3, 17);
         dueFull("POINT (1 2)", ")", 8, 11);
+        for (String last : new String[] {"1e", "1e+", "1E-", "+", "-", "."}) {
+            dueFull("POINT (1 ", " ", last, 4, 65536 - last.length());
+        }
+        dueFull("POINT (1 ", " ", "1.", 3, 65536);
+        dueFull("POINT (1 ", " ", "1e5", 3, 65536);
+        dueFull("POINT (1 2)", " ", "#", 8, 65535);
+        dueFull("POINT ", " ", "EMPT", 2, 65532);
+        dueFull("POINT ", " ", "(", 3, 65536);
+        dueFull("LINESTRING (1 2", " ", ",", 3, 65536);
+        WordShapes x = new WordShapes(0, 10, 10);
+        feedFull(x, " ".repeat(65536 - 11) + "POINT (1 2)");
+        Check.due("a shape at the end of a full tape", x.read(0), 1);
+        feedFull(x, "POINT (1 2" + " ".repeat(65536 - 11) + ")");
+        Check.due("a shape over a full tape", x.read(0), 1);
     }
 
     private static void dueFull(String start, String filler, int fault, int place) {
+        dueFull(start, filler, "", fault, place);
+    }
+
+    private static void dueFull(String start, String filler, String last, int fault, int place) {
         WordShapes x = new WordShapes(0, 10, 10);
-        String text = start + filler.repeat(65536 - start.length());
-        Check.feed(x, text.substring(0, 65516));
-        Check.feed(x, text.substring(65516));
-        Check.due("a full tape", x.count(0, 2), 65536);
+        String text = start + filler.repeat(65536 - start.length() - last.length()) + last;
+        feedFull(x, text);
         Check.dueThrows("read of " + start, IllegalArgumentException.class, () -> x.read(0));
         Check.due("fault(0) of " + start, x.fault(0), fault);
         Check.due("fault(1) of " + start, x.fault(1), place);
+    }
+
+    private static void feedFull(WordShapes x, String text) {
+        Check.feed(x, text);
+        Check.due("a full tape", x.count(0, 2), 65536);
     }
 }

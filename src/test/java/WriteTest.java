@@ -131,20 +131,24 @@ final class WriteTest {
     }
 
     /**
-     * By our count the most that a text of 65536 bytes is written with: below 131072, so no call can ask for more.
-     * More calls than the document speaks of, since no fewer fill the tape.
+     * 4096 points, 4096 plan numbers and a tape with less room than one word more: by our count no text is written with
+     * a dozen bytes more than this, so that a result would be more than 131072 can't be reached. More calls than the
+     * document speaks of, since no fewer fill the tape.
      */
     private static void writesNearlyTheMost() {
-        int bare = 1060;
-        int empties = 978;
+        int bare = 1064;
+        int empties = 981;
         String far = "-1e9 -1e9";
         String given = "GEOMETRYCOLLECTION(LINESTRING(" + far + ("," + far).repeat(4095 - bare) + "),MULTIPOINT(" + far
             + ("," + far).repeat(bare - 1) + ")" + ",GEOMETRYCOLLECTION EMPTY".repeat(empties) + ")";
         String written = "-1000000000 -1000000000";
         String want = "GEOMETRYCOLLECTION (LINESTRING (" + written + (", " + written).repeat(4095 - bare) + "), MULTIPOINT (("
             + written + ("), (" + written).repeat(bare - 1) + "))" + ", GEOMETRYCOLLECTION EMPTY".repeat(empties) + ")";
-        Check.due("a tape that is nearly full", given.length() > 65400 && given.length() <= 65536 ? 1 : 0, 1);
-        Check.due("a result that is nearly too long", want.length() > 129000 && want.length() <= 131072 ? 1 : 0, 1);
-        due(new WordShapes(0, 4096, 4096), given, want);
+        Check.due("a tape that is nearly full", given.length(), 65528);
+        Check.due("a result that is nearly too long", want.length(), 130079);
+        WordShapes x = new WordShapes(0, 4096, 4096);
+        due(x, given, want);
+        Check.due("numbers", x.count(1, 0), 4096);
+        Check.due("points", x.count(1, 1), 4096);
     }
 }
